@@ -93,7 +93,7 @@ public final class PartitionBench {
     }
 
     public int errorOffset() {
-        return setup.error == NO_ERROR ? -1 : setup.errorAt;
+        return setup.errorAt;
     }
 
     // ---- what stands on the disk
@@ -774,7 +774,7 @@ public final class PartitionBench {
         int size;
         int from;
         int to;
-        int chunk = 1;
+        int chunk;
         int chunks;
         /** NONE: there is no scratch area. */
         int scratch = NONE;
@@ -800,8 +800,6 @@ public final class PartitionBench {
 
         void stop() {
             part = NONE;
-            parked = false;
-            moved = 0;
         }
 
         int lengthOf(int chunkNumber) {
@@ -908,11 +906,11 @@ public final class PartitionBench {
         final Move move = new Move();
         /** A work row of packLeft, no part of the state. */
         final int[] order = new int[MOST_PARTS];
-        int length = LEAST_SECTORS;
+        int length;
         int head;
         int tail;
-        int align = FIRST_ALIGN;
-        int chunk = FIRST_CHUNK;
+        int align;
+        int chunk;
         int made;
         int stepsDone;
         int stepsTorn;
@@ -1394,7 +1392,7 @@ public final class PartitionBench {
         final int[] starts = new int[MOST];
         final int[] sizes = new int[MOST];
         int found;
-        int align = FIRST_ALIGN;
+        int align;
 
         void find(Disk disk) {
             found = 0;

@@ -205,6 +205,8 @@ public final class DiskTest {
         check.throwsDue("what 4", IllegalArgumentException.class, () -> b.gap(0, 4));
         check.throwsDue("what -1", IllegalArgumentException.class, () -> b.gap(0, -1));
         check.throwsDue("gap 4, what 4", IndexOutOfBoundsException.class, () -> b.gap(4, 4));
+        PartitionBench one = Texts.bench("disk 65;align 32;part 0 40 0 1;");
+        check.due("a room of 1", one.gap(0, 2) * 10 + one.gap(0, 3), 641);
         PartitionBench full = Texts.bench(FULL);
         check.throwsDue("no gaps", IndexOutOfBoundsException.class, () -> full.gap(0, 0));
     }
@@ -362,6 +364,10 @@ public final class DiskTest {
         check.due("some are overwritten", b.copies(0), 1);
         b.wipe();
         check.due("wiped", b.copies(0), 0);
+        PartitionBench first = Texts.bench("disk 64;part 0 4 0 1;");
+        first.begin(0, 60);
+        first.run(9);
+        check.due("from the first sector to the last one", first.copies(0), 4);
         check.throwsDue("part 5", java.util.NoSuchElementException.class, () -> b.copies(5));
         check.throwsDue("part -1", java.util.NoSuchElementException.class, () -> b.copies(-1));
     }

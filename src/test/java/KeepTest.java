@@ -16,6 +16,7 @@ public final class KeepTest {
         promise58PrintDisk();
         promise59OutputByte();
         promise60Undo();
+        promise60IntoAMove();
         promise60EachChange();
         promise61SaveState();
         promise62RestoreState();
@@ -112,6 +113,32 @@ public final class KeepTest {
         Texts.append(b, "disk 70;");
         b.undo();
         check.due("undo leaves the input buffer", b.loadDisk() + b.count(0), 70);
+    }
+
+    private static void promise60IntoAMove() {
+        check.at("promise 60, back into a move");
+        PartitionBench b = Texts.bench(TEXT);
+        b.begin(0, 8);
+        b.run(1);
+        b.saveState();
+        b.restoreState();
+        String before = Texts.state(b) + b.blocksAt(2);
+        for (boolean bySave : new boolean[] {false, true}) {
+            b.run(99);
+            b.set(4, 3);
+            b.begin(1, 2);
+            b.run(2);
+            if (bySave) {
+                b.restoreState();
+            }
+            for (int i = 0; i < 4 && !bySave; i++) {
+                b.undo();
+            }
+            check.due("the earlier move", Texts.state(b) + b.blocksAt(2), before);
+        }
+        check.due("its steps", b.run(99), 4);
+        check.due("verify()", b.verify(), 15);
+        check.due("print", Texts.print(b), "0[8,10] 1[20,6] 2[30,8] 3[50,10]*");
     }
 
     /** What the document calls a change; each one on a bench with a move on, at its second step. */

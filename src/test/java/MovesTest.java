@@ -426,6 +426,14 @@ public final class MovesTest {
         rooms.lock(0, true);
         check.due("32 by a move of the other one", rooms.cheapestMove(32), 1016);
         check.due("48 by a move", rooms.cheapestMove(48), -1);
+        // The hole between the locked ones has 20 sectors.
+        PartitionBench between = Texts.bench("disk 64;part 0 10 0 1;lock 0;part 20 4 0 1;part 30 10 0 1;lock 2;");
+        check.due("the whole hole", between.cheapestMove(24), -2);
+        check.due("more than the hole", between.cheapestMove(25), -1);
+        PartitionBench left = Texts.bench("disk 65;align 8;part 16 9 0 1;");
+        check.due("all the room ahead of it", left.cheapestMove(56), 56);
+        check.due("more than that", left.cheapestMove(57), -1);
+        check.due("no room at all", Texts.bench("disk 64;part 0 64 0 1;").cheapestMove(1), -1);
         check.due("no partitions", new PartitionBench().cheapestMove(64), -2);
         check.due("no partitions, too great", new PartitionBench().cheapestMove(65), -1);
     }

@@ -102,6 +102,9 @@ public final class PartsTest {
         check.throwsDue("a ninth", STATE, () -> b.addBy(1, 0, 1, 0));
         check.throwsDue("a ninth with a wrong kind", ARGUMENT, () -> b.addBy(1, 10, 1, 0));
         check.throwsDue("a ninth with a wrong rule", ARGUMENT, () -> b.addBy(1, 0, 1, 3));
+        PartitionBench first = new PartitionBench();
+        check.due("at sector 0", first.addBy(64, 0, 64, 0), 0);
+        check.throwsDue("no gap is left", STATE, () -> first.addBy(1, 0, 1, 2));
     }
 
     private static void promise21Remove() {
@@ -299,6 +302,10 @@ public final class PartsTest {
         b.turnBack();
         check.due("the greatest size", b.split(1, 4), 5);
         check.due("a rest of 2", b.part(5, 1), 2);
+        PartitionBench odd = Texts.bench("disk 64;part 10 10 0 1;");
+        odd.set(3, 7);
+        check.due("a start that is no multiple itself", odd.split(0, 4), 1);
+        check.throwsDue("not aligned, but 4 before the start", STATE, () -> odd.split(0, 3));
         PartitionBench eight = Texts.bench(EIGHT);
         check.throwsDue("a ninth", STATE, () -> eight.split(0, 1));
         check.throwsDue("a ninth, size 2", ARGUMENT, () -> eight.split(0, 2));
@@ -383,6 +390,11 @@ public final class PartsTest {
         // What is left over: 30 and 31, and the second chunk's and the first one's copies in the scratch area.
         check.due("behind the move", b.wipe(), 2 + 4);
         check.due("the whole disk", Texts.bench("disk 64;part 0 64 0 1;").wipe(), 0);
+        PartitionBench ends = Texts.bench("disk 64;part 0 1 0 1;part 63 1 0 1;");
+        ends.remove(0);
+        ends.remove(1);
+        check.due("the first and the last sector", ends.wipe(), 2);
+        check.due("are 0", ends.sector(0) + ends.sector(63), 0);
     }
 
     private static void promise50RoundUp() {

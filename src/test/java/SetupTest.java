@@ -124,6 +124,19 @@ public final class SetupTest {
         check.throwsDue("restoreState()", IllegalStateException.class, b::restoreState);
         check.due("add", b.add(0, 3, 0, 1), 0);
         check.due("the serials begin anew", b.sector(2), 1002);
+
+        b.begin(0, 9);
+        b.tear();
+        b.run(9);
+        b.compactSteps();
+        Texts.load(b, "disk 80;");
+        check.due("nothing is counted", Texts.state(b), Texts.state(Texts.bench("disk 80;")));
+        Texts.load(b, "disk 64;head 0;tail 2;align 2;chunk 3;part 0 4 0 1;lock 0;");
+        check.due("settings told once a text", Texts.load(b, "disk 64;head 0;tail 2;align 2;chunk 3;part 2 4 0 1;"), 1);
+        check.due("not locked", b.part(0, 4), 0);
+        check.due("sector(0)", b.sector(0), 0);
+        Texts.load(b, "disk 64;");
+        check.due("settings are those of no statement", Texts.state(b), Texts.state(new PartitionBench()));
     }
 
     private static void promise05ErrorCode() {
@@ -321,6 +334,11 @@ public final class SetupTest {
         error("disk 64;part 0 4 0 1;lock 00;", 0, -1);
         // A word that only begins or ends like one that may stand there.
         error("diskdisk 64;", 1, 0);
+        error("diskz 64;", 1, 0);
+        error("adisk 64;", 1, 0);
+        error("xisk 64;", 1, 0);
+        error("disk 64;xead 3;", 1, 8);
+        error("disk 64;xart 0 4 0 1;", 1, 8);
         error("dis", 1, 0);
         error("disk 64;part", 1, 12);
         error("disk 64;parts 0 4 0 1;", 1, 8);

@@ -10,8 +10,11 @@ public final class ModelTest {
     private static final int RUNS = Integer.getInteger("runs", 500);
     private static final int CALLS = 200;
     private static final String[] CHANGES = {"add", "addBy", "remove", "lock", "resize", "setMinimum", "set", "begin",
-        "begin", "run", "run", "tear", "turnBack", "compact", "split", "join", "shrinkAll", "wipe", "roundUp", "undo",
+        "begin", "begin", "begin", "run", "run", "tear", "turnBack", "compact", "split", "join", "shrinkAll", "wipe", "roundUp", "undo",
         "saveState", "restoreState"};
+
+    private static final String[] OF_A_MOVE = {"run", "tear", "turnBack", "move", "nextStep", "stepSector", "blocksAt",
+        "copies", "owner", "place", "growsTo", "resizeReason", "resize", "reason", "gap", "wipe", "isWhole", "undo"};
 
     private final Check check = new Check();
     private final Random random;
@@ -47,6 +50,8 @@ public final class ModelTest {
         for (int i = 0; i < CALLS; i++) {
             if (random.nextInt(60) == 0) {
                 load(random.nextInt(3) == 0 ? setup() : spoiled(setup()));
+            } else if (model.now.moving >= 0 && random.nextInt(2) == 0) {
+                call(named(OF_A_MOVE[random.nextInt(OF_A_MOVE.length)]));
             } else if (random.nextInt(3) > 0) {
                 call(named(CHANGES[random.nextInt(CHANGES.length)]));
             } else {
@@ -154,7 +159,8 @@ public final class ModelTest {
             case "move", "nextStep", "blocksAt": return upTo(9);
             case "cheapestMove": return 1 + upTo(random.nextInt(2) == 0 ? 60 : 20);
             case "ofKind": return upTo(3);
-            case "stepSector", "outputByte", "truncateInput", "appendInput": return upTo(30) - 1;
+            case "stepSector": return upTo(6) - 1;
+            case "outputByte", "truncateInput", "appendInput": return upTo(30) - 1;
             default: return i == 0 ? somePart() : second(name, length);
         }
     }
@@ -163,8 +169,22 @@ public final class ModelTest {
         switch (name) {
             case "part": return upTo(7);
             case "resize", "resizeReason", "split", "setMinimum", "place": return upTo(14);
+            case "begin", "stepsFor", "bestChunk", "moveReason": return target(length);
             default: return start(length);
         }
+    }
+
+    /** Mostly a start to which some partition can be moved, if a few tries find one. */
+    private int target(int length) {
+        for (int tries = 0; tries < 6; tries++) {
+            int to = start(length);
+            for (int part : model.now.parts.keySet()) {
+                if (model.moveReason(part, to) == 0) {
+                    return to;
+                }
+            }
+        }
+        return start(length);
     }
 
     private int somePart() {

@@ -30,6 +30,8 @@ public final class DiskTest {
         promise54GapAt();
         promise55Verify();
         gapsOfAMove();
+        endsOfBusyAreas();
+        noGapsWhileAMoveIsOn();
         check.end();
     }
 
@@ -57,6 +59,7 @@ public final class DiskTest {
         check.throwsDue("count(-1)", IllegalArgumentException.class, () -> b.count(-1));
         check.throwsDue("count(12)", IllegalArgumentException.class, () -> b.count(12));
         check.throwsDue("count(least)", IllegalArgumentException.class, () -> b.count(Integer.MIN_VALUE));
+        check.throwsDue("count(greatest)", IllegalArgumentException.class, () -> b.count(Integer.MAX_VALUE));
         counts("full", Texts.bench(FULL), 64, 2, 3, 1, 4, 1, 0, 0);
     }
 
@@ -79,7 +82,10 @@ public final class DiskTest {
         check.due("another one", b.part(1, 6), 0);
         check.throwsDue("what 7", IllegalArgumentException.class, () -> b.part(0, 7));
         check.throwsDue("what -1", IllegalArgumentException.class, () -> b.part(0, -1));
+        check.throwsDue("what greatest", IllegalArgumentException.class, () -> b.part(0, Integer.MAX_VALUE));
+        check.throwsDue("what least", IllegalArgumentException.class, () -> b.part(0, Integer.MIN_VALUE));
         check.throwsDue("no partition, what 7", IllegalArgumentException.class, () -> b.part(3, 7));
+        check.throwsDue("part -1, what -1", IllegalArgumentException.class, () -> b.part(-1, -1));
         for (int part : new int[] {3, 7, 8, -1, Integer.MAX_VALUE, Integer.MIN_VALUE}) {
             check.throwsDue("part " + part, java.util.NoSuchElementException.class, () -> b.part(part, 0));
         }
@@ -129,6 +135,28 @@ public final class DiskTest {
         check.due("nothing is there any more", b.owner(92), -1);
         check.due("a new place", b.owner(16), 0);
         check.due("an old place that was left", b.owner(14), -1);
+        ownersBesideAMove("to the right", 40);
+        ownersBesideAMove("to the left", 10);
+        check.due("no partition", new PartitionBench().owner(63), -1);
+        check.due("the whole disk", Texts.bench("disk 64;part 0 64 0 1;").owner(63), 0);
+    }
+
+    /** Two whole chunks from 24 to 31: the sectors beside FROM and TO belong to none at any step. */
+    private static void ownersBesideAMove(String where, int to) {
+        PartitionBench b = Texts.bench("disk 64;part 0 1 0 1;part 24 8 0 1;");
+        b.begin(1, to);
+        for (int step = 0; step < 3; step++) {
+            check.due(where + ", step " + step + ", beside FROM", b.owner(23) + " " + b.owner(32), "-1 -1");
+            check.due(where + ", step " + step + ", beside TO", b.owner(to - 1) + " " + b.owner(to + 8), "-1 -1");
+            int owned = 0;
+            for (int s = 0; s < 64; s++) {
+                owned += b.owner(s) == 1 ? 1 : 0;
+            }
+            check.due(where + ", step " + step + ", as many sectors as blocks", owned, 8);
+            if (step < 2) {
+                b.run(1);
+            }
+        }
     }
 
     private static void promise11Place() {
@@ -139,6 +167,8 @@ public final class DiskTest {
         check.throwsDue("block 10", IndexOutOfBoundsException.class, () -> b.place(0, 10));
         check.throwsDue("block -1", IndexOutOfBoundsException.class, () -> b.place(0, -1));
         check.throwsDue("block least", IndexOutOfBoundsException.class, () -> b.place(0, Integer.MIN_VALUE));
+        check.throwsDue("block greatest", IndexOutOfBoundsException.class, () -> b.place(0, Integer.MAX_VALUE));
+        check.throwsDue("part 3, block -1", java.util.NoSuchElementException.class, () -> b.place(3, -1));
         check.throwsDue("part 3", java.util.NoSuchElementException.class, () -> b.place(3, 0));
         check.throwsDue("part 8", java.util.NoSuchElementException.class, () -> b.place(8, 0));
         check.throwsDue("part -1", java.util.NoSuchElementException.class, () -> b.place(-1, 0));
@@ -181,7 +211,9 @@ public final class DiskTest {
         check.due("byStart(3)", b.byStart(3), -1);
         check.due("byStart(greatest)", b.byStart(Integer.MAX_VALUE), -1);
         check.throwsDue("byStart(-1)", IndexOutOfBoundsException.class, () -> b.byStart(-1));
+        check.throwsDue("byStart(least)", IndexOutOfBoundsException.class, () -> b.byStart(Integer.MIN_VALUE));
         check.due("none", new PartitionBench().byStart(0), -1);
+        check.throwsDue("none, byStart(-1)", IndexOutOfBoundsException.class, () -> new PartitionBench().byStart(-1));
         PartitionBench eight = Texts.bench("disk 64;part 14 1 0 1;part 12 1 0 1;part 10 1 0 1;part 8 1 0 1;"
             + "part 6 1 0 1;part 4 1 0 1;part 2 1 0 1;part 0 1 0 1;");
         for (int i = 0; i < 8; i++) {
@@ -204,11 +236,19 @@ public final class DiskTest {
         }
         check.throwsDue("what 4", IllegalArgumentException.class, () -> b.gap(0, 4));
         check.throwsDue("what -1", IllegalArgumentException.class, () -> b.gap(0, -1));
+        check.throwsDue("what greatest", IllegalArgumentException.class, () -> b.gap(0, Integer.MAX_VALUE));
+        check.throwsDue("what least", IllegalArgumentException.class, () -> b.gap(0, Integer.MIN_VALUE));
         check.throwsDue("gap 4, what 4", IndexOutOfBoundsException.class, () -> b.gap(4, 4));
         PartitionBench one = Texts.bench("disk 65;align 32;part 0 40 0 1;");
         check.due("a room of 1", one.gap(0, 2) * 10 + one.gap(0, 3), 641);
         PartitionBench full = Texts.bench(FULL);
         check.throwsDue("no gaps", IndexOutOfBoundsException.class, () -> full.gap(0, 0));
+        PartitionBench first = new PartitionBench();
+        check.due("the whole disk", first.gap(0, 0) + " " + first.gap(0, 1) + " " + first.gap(0, 2) + " " + first.gap(0, 3),
+            "0 64 0 64");
+        PartitionBench ends = Texts.bench("disk 64;align 8;part 0 63 0 1;");
+        check.due("a gap of 1, its room is empty", ends.gap(0, 0) + " " + ends.gap(0, 1) + " " + ends.gap(0, 2) + " "
+            + ends.gap(0, 3), "63 1 -1 0");
     }
 
     private static void promise15LargestGap() {
@@ -236,6 +276,9 @@ public final class DiskTest {
         check.throwsDue("rule 3", IllegalArgumentException.class, () -> b.fit(1, 3));
         check.throwsDue("rule -1", IllegalArgumentException.class, () -> b.fit(1, -1));
         check.throwsDue("size 0, rule 3", IllegalArgumentException.class, () -> b.fit(0, 3));
+        check.throwsDue("rule greatest", IllegalArgumentException.class, () -> b.fit(1, Integer.MAX_VALUE));
+        check.throwsDue("rule least", IllegalArgumentException.class, () -> b.fit(1, Integer.MIN_VALUE));
+        check.throwsDue("no start, rule -1", IllegalArgumentException.class, () -> b.fit(999, -1));
         PartitionBench gaps = Texts.bench("disk 64;part 10 5 0 1;part 20 5 0 1;part 30 30 0 1;");
         check.due("the first one", gaps.fit(3, 0), 0);
         check.due("the first one of two with the least room", gaps.fit(5, 1), 15);
@@ -245,6 +288,12 @@ public final class DiskTest {
         PartitionBench tie = Texts.bench("disk 68;part 10 4 0 1;part 34 4 0 1;part 58 10 0 1;");
         check.due("the first one of two with the most room", tie.fit(3, 2), 14);
         check.due("no gap", Texts.bench(FULL).fit(1, 0), -1);
+        PartitionBench whole = new PartitionBench();
+        check.due("all sectors", whole.fit(64, 0) + whole.fit(64, 1) + whole.fit(64, 2), 0);
+        check.due("one more", whole.fit(65, 0) + whole.fit(65, 1) + whole.fit(65, 2), -3);
+        // The gap has 7 sectors, its room 4.
+        PartitionBench room = Texts.bench("disk 64;align 8;part 0 5 0 1;part 16 48 0 1;");
+        check.due("the room counts", room.fit(8, 0) * 100 + room.fit(9, 0), 799);
     }
 
     private static void promise17Reason() {
@@ -273,7 +322,8 @@ public final class DiskTest {
         int big = Integer.MAX_VALUE;
         int low = Integer.MIN_VALUE;
         int[][] due = {{0, 100, 7}, {17, 8, 5}, {18, 6, 0}, {-5, 14, 1}, {-5, 13, 0}, {39, big, 2}, {40, big, 0},
-            {low, big, 0}, {-1, big, 7}, {big, big, 0}, {10, 0, 0}, {10, -1, 0}, {10, low, 0}, {29, 4, 6}, {24, 1, 4}};
+            {low, big, 0}, {-1, big, 7}, {big, big, 0}, {10, 0, 0}, {10, -1, 0}, {10, low, 0}, {29, 4, 6}, {24, 1, 4},
+            {low, low, 0}, {big, 1, 0}, {0, 8, 0}, {0, 9, 1}, {8, 1, 1}, {17, 1, 1}, {39, 1, 2}, {95, 5, 0}, {8, 10, 1}};
         for (int[] d : due) {
             check.due("overlapped(" + d[0] + ", " + d[1] + ")", b.overlapped(d[0], d[1]), d[2]);
         }
@@ -292,6 +342,8 @@ public final class DiskTest {
         b.set(3, 32);
         check.due("ALIGN 32", b.waste(), 5 + 6 + 2 + 24);
         check.due("full", Texts.bench(FULL).waste(), 0);
+        check.due("a gap that is all room", new PartitionBench().waste(), 0);
+        check.due("a gap without a room", Texts.bench("disk 64;align 8;part 0 63 0 1;").waste(), 1);
     }
 
     private static void promise40Scatter() {
@@ -299,6 +351,8 @@ public final class DiskTest {
         check.due("scatter()", Texts.bench(TEXT).scatter(), 1f - 55f / 68f);
         check.due("one gap", new PartitionBench().scatter(), 0f);
         check.due("no gap", Texts.bench(FULL).scatter(), 0f);
+        check.due("a gap of 1", Texts.bench("disk 64;part 0 63 0 1;").scatter(), 0f);
+        check.due("two gaps of 1", Texts.bench("disk 64;part 1 62 0 1;").scatter(), 0.5f);
         check.due("two gaps", Texts.bench("disk 64;part 30 4 0 1;").scatter(), 0.5f);
         check.due("a third", Texts.bench("disk 64;part 20 4 0 1;").scatter(), 1f - 40f / 60f);
     }
@@ -326,6 +380,8 @@ public final class DiskTest {
         b.run(99);
         check.due("moved no more", b.slack(), 6 + 6 + 3);
         check.due("none", new PartitionBench().slack(), 0);
+        check.due("all have their minimum", Texts.bench("disk 64;part 0 4 0 4;part 8 1 0 1;").slack(), 0);
+        check.due("as much as can be", Texts.bench("disk 600;part 0 600 0 1;").slack(), 599);
     }
 
     private static void promise43OfKind() {
@@ -343,6 +399,10 @@ public final class DiskTest {
         check.due("one removed", b.ofKind(1), 8);
         check.throwsDue("ofKind(10)", IllegalArgumentException.class, () -> b.ofKind(10));
         check.throwsDue("ofKind(-1)", IllegalArgumentException.class, () -> b.ofKind(-1));
+        check.throwsDue("ofKind(greatest)", IllegalArgumentException.class, () -> b.ofKind(Integer.MAX_VALUE));
+        check.throwsDue("ofKind(least)", IllegalArgumentException.class, () -> b.ofKind(Integer.MIN_VALUE));
+        b.begin(1, 48);
+        check.due("one that is moved counts once", b.ofKind(1), 8);
     }
 
     private static void promise45Copies() {
@@ -370,6 +430,7 @@ public final class DiskTest {
         check.due("from the first sector to the last one", first.copies(0), 4);
         check.throwsDue("part 5", java.util.NoSuchElementException.class, () -> b.copies(5));
         check.throwsDue("part -1", java.util.NoSuchElementException.class, () -> b.copies(-1));
+        check.throwsDue("part 8", java.util.NoSuchElementException.class, () -> b.copies(8));
     }
 
     private static void promise53Behind() {
@@ -378,6 +439,9 @@ public final class DiskTest {
         check.due("behind(0)", b.behind(0), 2);
         check.due("behind(2)", b.behind(2), 1);
         check.due("behind(1)", b.behind(1), -1);
+        b.begin(0, 60);
+        check.due("one that is moved is at FROM", b.behind(0) + " " + b.behind(1), "2 -1");
+        check.due("alone", Texts.bench("disk 64;part 0 64 0 1;").behind(0), -1);
         for (int part : new int[] {3, 8, -1}) {
             check.throwsDue("part " + part, java.util.NoSuchElementException.class, () -> b.behind(part));
         }
@@ -416,11 +480,7 @@ public final class DiskTest {
         check.at("gaps of a move");
         PartitionBench b = Texts.bench("disk 64;part 10 8 0 1;");
         b.begin(0, 8);
-        String gaps = "";
-        for (int g = 0; g < b.count(7); g++) {
-            gaps += b.gap(g, 0) + "+" + b.gap(g, 1) + " ";
-        }
-        check.due("TO is 8 to 15, the scratch area 60 to 63", gaps, "0+8 18+42 ");
+        check.due("TO is 8 to 15, the scratch area 60 to 63", gaps(b), "0+8 18+42 ");
         check.due("gapAt(9)", b.gapAt(9), -1);
         check.due("gapAt(60)", b.gapAt(60), -1);
         check.due("gapAt(59)", b.gapAt(59), 1);
@@ -433,5 +493,53 @@ public final class DiskTest {
         check.due("the greatest scratch area is 59 to 61", many.move(3), 59);
         check.due("many gaps", many.count(7), 9);
         check.due("the last of them", many.gap(8, 0), 63);
+    }
+
+    /** The first and the last sector of TO and of the scratch area, and those beside them. */
+    private static void endsOfBusyAreas() {
+        check.at("ends of busy areas");
+        // TO is 20 to 27, no scratch area.
+        PartitionBench far = Texts.bench("disk 64;part 0 8 0 1;");
+        far.begin(0, 20);
+        check.due("ahead of TO, its first and last sector, behind it",
+            "" + far.reason(19, 1) + far.reason(20, 1) + far.reason(27, 1) + far.reason(28, 1), "0440");
+        // TO is 11 to 18; the scratch area is 56 to 59, and the sectors behind it are free again.
+        PartitionBench near = Texts.bench("disk 64;part 10 8 0 1;part 60 4 0 1;");
+        near.begin(0, 11);
+        near.remove(1);
+        check.due("the last sector of TO, behind it", "" + near.reason(18, 1) + near.reason(19, 1), "40");
+        check.due("ahead of the scratch area, its first and last sector, behind it",
+            "" + near.reason(55, 1) + near.reason(56, 1) + near.reason(59, 1) + near.reason(60, 1), "0440");
+        check.due("gaps", gaps(near), "0+10 19+37 60+4 ");
+        check.due("gapAt", near.gapAt(18) + " " + near.gapAt(19) + " " + near.gapAt(59) + " " + near.gapAt(60), "-1 1 -1 2");
+        // The scratch area of a partition that is shorter than CHUNK: 57 to 59.
+        PartitionBench small = Texts.bench("disk 64;chunk 16;part 10 3 0 1;part 60 4 0 1;");
+        small.begin(0, 12);
+        small.remove(1);
+        check.due("gaps beside a short scratch area", gaps(small), "0+10 15+42 60+4 ");
+        check.due("behind it", "" + small.reason(59, 1) + small.reason(60, 1), "40");
+    }
+
+    private static String gaps(PartitionBench b) {
+        String gaps = "";
+        for (int g = 0; g < b.count(7); g++) {
+            gaps += b.gap(g, 0) + "+" + b.gap(g, 1) + " ";
+        }
+        return gaps;
+    }
+
+    private static void noGapsWhileAMoveIsOn() {
+        check.at("no gaps while a move is on");
+        PartitionBench b = Texts.bench("disk 64;part 0 32 0 1;");
+        b.begin(0, 32);
+        check.due("count(6), count(7)", b.count(6) + " " + b.count(7), "0 0");
+        check.throwsDue("gap(0, 0)", IndexOutOfBoundsException.class, () -> b.gap(0, 0));
+        check.due("largestGap()", b.largestGap(), 0);
+        check.due("waste()", b.waste(), 0);
+        check.due("scatter()", b.scatter(), 0f);
+        check.due("used()", b.used(), 0.5);
+        check.due("fit(1, 0)", b.fit(1, 0), -1);
+        check.due("gapAt(40)", b.gapAt(40), -1);
+        check.throwsDue("addBy", IllegalStateException.class, () -> b.addBy(1, 0, 1, 0));
     }
 }

@@ -16,6 +16,7 @@ public final class KeepTest {
         promise58PrintDisk();
         promise59OutputByte();
         promise60Undo();
+        promise60Latest10();
         promise60IntoAMove();
         promise60EachChange();
         promise61SaveState();
@@ -113,6 +114,26 @@ public final class KeepTest {
         Texts.append(b, "disk 70;");
         b.undo();
         check.due("undo leaves the input buffer", b.loadDisk() + b.count(0), 70);
+    }
+
+    /** However many changes there were, the latest 10 can be undone, and none before them. */
+    private static void promise60Latest10() {
+        check.at("promise 60, the latest 10");
+        for (int changes = 0; changes <= 32; changes++) {
+            PartitionBench b = new PartitionBench();
+            for (int i = 1; i <= changes; i++) {
+                b.set(3, i);
+            }
+            int undone = 0;
+            while (undone < 40 && b.undo() >= 0) {
+                undone++;
+            }
+            check.due(changes + " changes, undone", undone, Math.min(changes, 10));
+            check.due(changes + " changes, ALIGN", b.count(3), Math.max(1, changes - 10));
+            check.due(changes + " changes, left", b.count(11), 0);
+            check.due(changes + " changes, once more", b.undo(), -1);
+            check.due(changes + " changes, as before", b.count(3), Math.max(1, changes - 10));
+        }
     }
 
     private static void promise60IntoAMove() {
@@ -238,12 +259,20 @@ public final class KeepTest {
         check.due("restoreState()", b.restoreState(), 3);
         check.throwsDue("the later one", NoSuchElementException.class, () -> b.part(1, 0));
         check.due("of no partition", new PartitionBench().saveState(), 0);
+        PartitionBench eight = Texts.bench("disk 64;part 0 1 0 1;part 1 1 0 1;part 2 1 0 1;part 3 1 0 1;part 4 1 0 1;"
+            + "part 5 1 0 1;part 6 1 0 1;part 7 1 0 1;");
+        check.due("of eight", eight.saveState(), 8);
+        eight.remove(0);
+        check.due("of eight, restored", eight.restoreState(), 8);
     }
 
     private static void promise62RestoreState() {
         check.at("promise 62");
         PartitionBench b = Texts.bench(TEXT);
         check.throwsDue("no state is saved", IllegalStateException.class, () -> b.restoreState());
+        b.set(4, 3);
+        check.throwsDue("none is saved still", IllegalStateException.class, () -> b.restoreState());
+        check.due("what throws leaves what can be undone", b.undo(), 0);
         b.saveState();
         String before = Texts.state(b);
         b.remove(0);

@@ -57,7 +57,17 @@ public final class MovesTest {
         check.due("no move is on any more", b.moveReason(0, 4), 0);
         b.lock(1, false);
         check.due("freed", b.moveReason(1, 36), 0);
+        b.set(3, 4);
+        check.due("it stands there, not aligned", b.moveReason(0, 10), 3);
+        b.begin(0, 4);
+        check.due("a move is on, and it stands there", b.moveReason(1, 30), 2);
+        check.due("a move is on, and it goes there", b.moveReason(0, 4), 2);
+        b.lock(0, true);
+        check.due("locked and moved", b.moveReason(0, 10), 1);
         PartitionBench tight = Texts.bench(TIGHT);
+        check.due("taken, and no scratch area", tight.moveReason(1, 29), 6);
+        check.due("not usable, and no scratch area", tight.moveReason(1, 35), 4);
+        check.due("the last sectors", tight.moveReason(1, 34), 0);
         check.due("4 far, no scratch area needed", tight.moveReason(1, 34), 0);
         check.due("3 far, none is left behind TO", tight.moveReason(1, 33), 7);
         check.due("1 far, 3 are left", tight.moveReason(1, 31), 7);
@@ -95,6 +105,18 @@ public final class MovesTest {
         for (int part : new int[] {1, 8, -1}) {
             check.throwsDue("part " + part, NONE, () -> b.stepsFor(part, 4));
         }
+        PartitionBench tight = Texts.bench(TIGHT);
+        check.due("no scratch area", tight.stepsFor(1, 31), -1);
+        check.due("taken", tight.stepsFor(1, 29), -1);
+        check.due("the last chunk of 2 goes directly, 7 go by the scratch area",
+            Texts.bench("disk 64;part 0 30 0 1;").stepsFor(0, 2), 15);
+        tight.set(3, 32);
+        check.due("not aligned", tight.stepsFor(1, 34), -1);
+        PartitionBench most = Texts.bench("disk 600;chunk 1;part 0 599 0 1;");
+        check.due("as many blocks as can be", most.stepsFor(0, 1), 599);
+        check.due("they are done", most.begin(0, 1) + most.run(999), 2 * 599);
+        PartitionBench one = Texts.bench("disk 64;chunk 16;part 0 1 0 1;");
+        check.due("one block needs no scratch area", one.stepsFor(0, 1), 1);
     }
 
     private static void promise30Begin() {
@@ -109,6 +131,8 @@ public final class MovesTest {
         for (int part : new int[] {2, 8, -1}) {
             check.throwsDue("part " + part, NONE, () -> b.begin(part, 4));
         }
+        PartitionBench tight = Texts.bench(TIGHT);
+        check.throwsDue("no scratch area", STATE, () -> tight.begin(1, 31));
         check.due("begin(0, 8)", b.begin(0, 8), 5);
         check.due("no step is done", b.count(8) + b.move(6) + b.move(8), 0);
         check.due("it is at FROM", b.part(0, 0), 10);
@@ -142,11 +166,32 @@ public final class MovesTest {
         scratch("disk 64;head 3;chunk 4;part 7 4 0 1;part 13 51 0 1;", 0, 8, 3);
         // As long as the longest chunk, not as CHUNK.
         scratch("disk 64;chunk 16;part 10 6 0 1;", 0, 8, 58);
+        // One sector of it would be in another partition, or in TO.
+        scratch("disk 64;part 10 8 0 1;part 63 1 0 1;", 0, 11, 59);
+        scratch("disk 64;part 10 8 0 1;part 62 2 0 1;part 61 1 0 1;", 0, 11, 57);
+        scratch("disk 64;part 10 8 0 1;part 60 1 0 1;", 0, 11, 56);
+        scratch("disk 64;part 56 8 0 1;", 0, 55, 51);
+        scratch("disk 64;part 55 8 0 1;", 0, 56, 51);
+        // The scratch area fits just between two others.
+        scratch("disk 64;part 10 8 0 1;part 61 3 0 1;part 50 7 0 1;", 0, 11, 57);
+        scratch("disk 64;part 10 8 0 1;part 61 3 0 1;part 50 8 0 1;", 0, 11, 46);
         PartitionBench b = Texts.bench(ONE);
         b.begin(0, 22);
         b.add(50, 10, 0, 1);
         b.run(1);
         check.due("it stays the same", b.move(3), 60);
+        PartitionBench free = Texts.bench("disk 64;part 10 8 0 1;part 60 4 0 1;");
+        free.begin(0, 11);
+        check.due("ahead of the last one", free.move(3), 56);
+        free.remove(1);
+        free.set(4, 2);
+        free.run(2);
+        check.due("also if a greater one is free then", free.move(3), 56);
+        free.turnBack();
+        check.due("also if it is turned back", free.move(3), 56);
+        free.run(1);
+        check.due("what it is used for", free.sector(56) + " " + free.sector(59) + " " + free.sector(60), "1004 1007 2000");
+        check.due("isWhole(0)", free.isWhole(0), true);
     }
 
     private static void promise31Run() {
@@ -159,6 +204,7 @@ public final class MovesTest {
         check.throwsDue("run(-1)", ARGUMENT, () -> b.run(-1));
         check.throwsDue("run(1000)", ARGUMENT, () -> b.run(1000));
         check.throwsDue("run(greatest)", ARGUMENT, () -> b.run(BIG));
+        check.throwsDue("run(least)", ARGUMENT, () -> b.run(LOW));
         // To the left, in ascending order: 0 to 3 by the scratch area, 4 to 7 too, 8 to 9 directly.
         check.due("run(1)", b.run(1), 1);
         check.due("copied to the scratch area", b.sector(60) + b.sector(63), 1000 + 1003);
@@ -301,6 +347,8 @@ public final class MovesTest {
         moveIs(b, 1, 18, 30, -1, 4, 3, 0, 3, 0);
         check.throwsDue("what 9", ARGUMENT, () -> b.move(9));
         check.throwsDue("what -1", ARGUMENT, () -> b.move(-1));
+        check.throwsDue("what greatest", ARGUMENT, () -> b.move(BIG));
+        check.throwsDue("what least", ARGUMENT, () -> b.move(LOW));
         PartitionBench none = new PartitionBench();
         check.throwsDue("what 9 without a move", ARGUMENT, () -> none.move(9));
         PartitionBench ones = Texts.bench("disk 64;part 20 8 1 4;");
@@ -404,6 +452,12 @@ public final class MovesTest {
         check.throwsDue("size 0", ARGUMENT, () -> b.cheapestMove(0));
         check.throwsDue("size 601", ARGUMENT, () -> b.cheapestMove(601));
         check.throwsDue("size least", ARGUMENT, () -> b.cheapestMove(LOW));
+        check.throwsDue("size greatest", ARGUMENT, () -> b.cheapestMove(BIG));
+        // Usable are 5 to 59: 20 ahead of it and 25 behind it, 45 in all.
+        PartitionBench ends = Texts.bench("disk 64;head 5;tail 4;part 25 10 0 1;");
+        check.due("behind it without a move", ends.cheapestMove(25), -2);
+        check.due("up to the tail", ends.cheapestMove(45), 5);
+        check.due("not into the tail", ends.cheapestMove(46), -1);
         b.begin(0, 40);
         check.throwsDue("a move is on", STATE, () -> b.cheapestMove(5));
         check.throwsDue("size 0 while a move is on", ARGUMENT, () -> b.cheapestMove(0));
@@ -443,6 +497,8 @@ public final class MovesTest {
         PartitionBench b = Texts.bench(ONE);
         check.due("no move is on", b.blocksAt(0) + b.blocksAt(1) + b.blocksAt(2), -3);
         check.throwsDue("where 3 without a move", ARGUMENT, () -> b.blocksAt(3));
+        check.throwsDue("where greatest", ARGUMENT, () -> b.blocksAt(BIG));
+        check.throwsDue("where least", ARGUMENT, () -> b.blocksAt(LOW));
         b.begin(0, 22);
         String[] due = {"0 0 10", "2 0 8", "2 4 4", "6 0 4", "6 4 0"};
         for (int step = 0; step < due.length; step++) {
@@ -480,6 +536,8 @@ public final class MovesTest {
         check.due("4 far", tight.bestChunk(1, 34), 4);
         PartitionBench full = Texts.bench("disk 64;part 0 63 0 1;");
         check.due("only chunks of 1", full.bestChunk(0, 1), 1);
+        check.due("no CHUNK for what is not usable", full.bestChunk(0, 2), -1);
+        check.due("one block", Texts.bench("disk 64;part 0 1 0 1;").bestChunk(0, 1), 1);
         check.due("more than 16 blocks", Texts.bench("disk 64;part 0 17 0 1;").bestChunk(0, 40), 9);
         check.due("16 and more", Texts.bench("disk 64;part 0 32 0 1;").bestChunk(0, 32), 16);
         b.lock(0, true);
@@ -530,6 +588,8 @@ public final class MovesTest {
         b.begin(0, 23);
         steps(b, "0 2 8 2", "0 1 4 4", "0 0 0 4");
         check.throwsDue("what 4", ARGUMENT, () -> b.nextStep(4));
+        check.throwsDue("what greatest", ARGUMENT, () -> b.nextStep(BIG));
+        check.throwsDue("what least", ARGUMENT, () -> b.nextStep(LOW));
     }
 
     private static void steps(PartitionBench b, String... due) {

@@ -55,6 +55,13 @@ public final class PartsTest {
         check.due("minimum 1", b.add(90, 8, 0, 1), 5);
         check.throwsDue("kind 10", ARGUMENT, () -> b.add(80, 2, 10, 1));
         check.throwsDue("kind -1", ARGUMENT, () -> b.add(80, 2, -1, 1));
+        check.throwsDue("kind greatest", ARGUMENT, () -> b.add(80, 2, BIG, 1));
+        check.throwsDue("kind least", ARGUMENT, () -> b.add(80, 2, LOW, 1));
+        check.throwsDue("minimum greatest", ARGUMENT, () -> b.add(80, 2, 0, BIG));
+        check.throwsDue("minimum least", ARGUMENT, () -> b.add(80, 2, 0, LOW));
+        check.throwsDue("one sector of the tail", ARGUMENT, () -> b.add(96, 3, 0, 1));
+        check.throwsDue("a start below 0", ARGUMENT, () -> b.add(-2, 4, 0, 1));
+        check.throwsDue("the least start", ARGUMENT, () -> b.add(LOW, 2, 0, 1));
         check.throwsDue("minimum 0", ARGUMENT, () -> b.add(80, 2, 0, 0));
         check.throwsDue("minimum 3 of 2", ARGUMENT, () -> b.add(80, 2, 0, 3));
         check.throwsDue("not usable", ARGUMENT, () -> b.add(0, 2, 0, 1));
@@ -89,6 +96,10 @@ public final class PartsTest {
         check.due("rule 2", b.addBy(3, 4, 1, 2), 6);
         check.due("rule 2 at", b.part(6, 0), 60);
         check.throwsDue("no start", STATE, () -> b.addBy(40, 0, 1, 0));
+        for (int rule = 0; rule < 3; rule++) {
+            int r = rule;
+            check.throwsDue("one more than the most room, rule " + r, STATE, () -> b.addBy(35, 0, 1, r));
+        }
         check.throwsDue("no start for a great size", STATE, () -> b.addBy(BIG, 0, 1, 0));
         check.throwsDue("size 0", ARGUMENT, () -> b.addBy(0, 0, 1, 0));
         check.throwsDue("kind 10", ARGUMENT, () -> b.addBy(2, 10, 1, 0));
@@ -97,12 +108,21 @@ public final class PartsTest {
         check.throwsDue("minimum 3 of 2", ARGUMENT, () -> b.addBy(2, 0, 3, 0));
         check.throwsDue("rule 3", ARGUMENT, () -> b.addBy(2, 0, 1, 3));
         check.throwsDue("rule -1", ARGUMENT, () -> b.addBy(2, 0, 1, -1));
+        check.throwsDue("rule greatest", ARGUMENT, () -> b.addBy(2, 0, 1, BIG));
+        check.throwsDue("size -1", ARGUMENT, () -> b.addBy(-1, 0, -1, 0));
+        check.throwsDue("size least", ARGUMENT, () -> b.addBy(LOW, 0, LOW, 0));
         check.throwsDue("rule 3, no start", ARGUMENT, () -> b.addBy(90, 0, 1, 3));
         check.due("minimum and size", b.addBy(2, 0, 2, 0), 7);
         check.throwsDue("a ninth", STATE, () -> b.addBy(1, 0, 1, 0));
         check.throwsDue("a ninth with a wrong kind", ARGUMENT, () -> b.addBy(1, 10, 1, 0));
         check.throwsDue("a ninth with a wrong rule", ARGUMENT, () -> b.addBy(1, 0, 1, 3));
+        for (int rule = 0; rule < 3; rule++) {
+            PartitionBench room = Texts.bench(TEXT);
+            check.due("just the most room, rule " + rule, room.addBy(38, 9, 38, rule), 4);
+            check.due("its start", room.part(4, 0), 60);
+        }
         PartitionBench first = new PartitionBench();
+        check.throwsDue("more than the disk", STATE, () -> first.addBy(65, 0, 64, 0));
         check.due("at sector 0", first.addBy(64, 0, 64, 0), 0);
         check.throwsDue("no gap is left", STATE, () -> first.addBy(1, 0, 1, 2));
     }
@@ -122,6 +142,9 @@ public final class PartsTest {
         b.begin(0, 70);
         check.throwsDue("moved", STATE, () -> b.remove(0));
         check.due("another one while one is moved", b.remove(2), 8);
+        b.lock(0, true);
+        check.throwsDue("locked and moved", STATE, () -> b.remove(0));
+        b.lock(0, false);
         b.turnBack();
         check.due("moved no more", b.remove(0), 10);
         b.lock(3, false);
@@ -194,6 +217,8 @@ public final class PartsTest {
         check.throwsDue("less than its minimum", STATE, () -> b.resize(0, 3));
         check.throwsDue("taken", STATE, () -> b.resize(0, 21));
         check.throwsDue("not usable", STATE, () -> b.resize(0, BIG));
+        check.throwsDue("size 0", STATE, () -> b.resize(0, 0));
+        check.throwsDue("size least", STATE, () -> b.resize(0, LOW));
         check.throwsDue("locked", STATE, () -> b.resize(3, 11));
         check.throwsDue("part 1", NONE, () -> b.resize(1, 1));
         check.throwsDue("part 8", NONE, () -> b.resize(8, 1));
@@ -202,6 +227,14 @@ public final class PartsTest {
         check.throwsDue("moved", STATE, () -> b.resize(0, 5));
         b.resize(2, 12);
         check.due("another one while one is moved", b.sector(41), 3011);
+        b.turnBack();
+        b.begin(0, 46);
+        check.throwsDue("busy", STATE, () -> b.resize(2, 17));
+        check.due("up to what is busy", b.resize(2, 16), 12);
+        b.lock(3, false);
+        check.throwsDue("one sector of the tail", STATE, () -> b.resize(3, 49));
+        check.due("up to the tail", b.resize(3, 48), 10);
+        check.due("down to its minimum", b.resize(3, 1), 48);
     }
 
     private static void promise25SetMinimum() {
@@ -214,6 +247,8 @@ public final class PartsTest {
         check.throwsDue("minimum 0", ARGUMENT, () -> b.setMinimum(0, 0));
         check.throwsDue("minimum 11", ARGUMENT, () -> b.setMinimum(0, 11));
         check.throwsDue("minimum least", ARGUMENT, () -> b.setMinimum(0, LOW));
+        check.throwsDue("minimum greatest", ARGUMENT, () -> b.setMinimum(0, BIG));
+        check.throwsDue("part 4, minimum greatest", NONE, () -> b.setMinimum(4, BIG));
         check.throwsDue("part 4", NONE, () -> b.setMinimum(4, 1));
         check.throwsDue("part 4, minimum 0", NONE, () -> b.setMinimum(4, 0));
         check.throwsDue("part 8", NONE, () -> b.setMinimum(8, 0));
@@ -239,6 +274,8 @@ public final class PartsTest {
         check.due("moved far away", b.growsTo(1), 10);
         check.due("up to TO", b.growsTo(3), 10);
         check.due("the whole disk", Texts.bench("disk 600;part 0 1 0 1;").growsTo(0), 600);
+        check.due("full already", Texts.bench("disk 64;part 0 64 0 1;").growsTo(0), 64);
+        check.due("the last usable sector", Texts.bench("disk 64;tail 3;part 60 1 0 1;").growsTo(0), 1);
         PartitionBench scratch = Texts.bench("disk 64;part 10 8 0 1;part 40 4 0 1;");
         scratch.begin(0, 9);
         check.due("up to the scratch area", scratch.growsTo(1), 20);
@@ -253,7 +290,8 @@ public final class PartsTest {
         check.due("set(4, 16)", b.set(4, 16), 4);
         check.due("set(4, 1)", b.set(4, 1), 16);
         check.due("ALIGN and CHUNK", b.count(3) * 100 + b.count(4), 101);
-        int[][] wrong = {{3, 0}, {3, 33}, {3, -1}, {4, 0}, {4, 17}, {4, LOW}, {2, 1}, {5, 1}, {0, 64}, {-3, 1}, {BIG, 1}};
+        int[][] wrong = {{3, 0}, {3, 33}, {3, -1}, {4, 0}, {4, 17}, {4, LOW}, {2, 1}, {5, 1}, {0, 64}, {-3, 1}, {BIG, 1},
+            {3, BIG}, {3, LOW}, {4, -1}, {4, BIG}, {4, 32}, {1, 1}, {LOW, 1}};
         for (int[] w : wrong) {
             check.throwsDue("set(" + w[0] + ", " + w[1] + ")", ARGUMENT, () -> b.set(w[0], w[1]));
         }
@@ -291,6 +329,10 @@ public final class PartsTest {
         check.throwsDue("not aligned", STATE, () -> b.split(1, 3));
         check.throwsDue("locked", STATE, () -> b.split(3, 2));
         check.throwsDue("locked and out of range", ARGUMENT, () -> b.split(3, 10));
+        check.throwsDue("locked and not aligned", STATE, () -> b.split(3, 3));
+        check.throwsDue("locked, one less than its size, not aligned", STATE, () -> b.split(3, 9));
+        check.due("no rest is left of one sector", Check.outcome(() -> Texts.bench("disk 64;part 0 1 0 1;").split(0, 1)),
+            "throws IllegalArgumentException");
         check.throwsDue("part 4", NONE, () -> b.split(4, 2));
         check.throwsDue("part 4, size -1", NONE, () -> b.split(4, -1));
         check.throwsDue("part 8", NONE, () -> b.split(8, 2));
@@ -328,8 +370,15 @@ public final class PartsTest {
         check.throwsDue("part 1", NONE, () -> b.join(1));
         check.throwsDue("part 8", NONE, () -> b.join(8));
         check.throwsDue("part -1", NONE, () -> b.join(-1));
+        b.resize(0, 19);
+        check.throwsDue("one sector between them", STATE, () -> b.join(0));
         b.resize(0, 20);
         check.throwsDue("of another kind", STATE, () -> b.join(0));
+        PartitionBench last = Texts.bench("disk 64;part 0 64 0 1;");
+        check.throwsDue("up to the last sector", STATE, () -> last.join(0));
+        PartitionBench other = Texts.bench("disk 64;part 8 8 9 1;part 0 8 0 1;lock 1;");
+        check.throwsDue("locked and of another kind", STATE, () -> other.join(1));
+        check.throwsDue("a neighbour ahead is none", STATE, () -> other.join(0));
         PartitionBench c = Texts.bench("disk 64;part 12 4 0 2;part 8 4 0 3;part 16 4 0 1;");
         c.lock(2, true);
         check.throwsDue("the neighbour is locked", STATE, () -> c.join(0));
@@ -363,6 +412,11 @@ public final class PartsTest {
         check.due("print", Texts.print(b), "0[10,4] 1[20,2] 2[30,8] 3[70,1]");
         check.due("each is a change", b.count(11), 7);
         check.due("no partitions", new PartitionBench().shrinkAll(), 0);
+        PartitionBench most = Texts.bench("disk 600;part 0 600 0 1;");
+        check.due("as much as can be", most.shrinkAll(), 599);
+        check.due("one is left", most.part(0, 1), 1);
+        most.lock(0, true);
+        check.due("locked with its minimum", most.shrinkAll(), 0);
     }
 
     private static void promise49Wipe() {
@@ -425,5 +479,17 @@ public final class PartsTest {
         check.due("busy no more", b.roundUp(3), 14);
         b.lock(3, true);
         check.throwsDue("locked, with the size already", STATE, () -> b.roundUp(3));
+        PartitionBench end = Texts.bench("disk 64;tail 3;align 8;part 48 9 0 1;part 0 17 0 1;");
+        check.throwsDue("into the tail", STATE, () -> end.roundUp(0));
+        check.due("the state is as before", end.part(0, 1), 9);
+        check.due("one more than a multiple", end.roundUp(1), 24);
+        check.due("just a multiple", end.roundUp(1), 24);
+        check.due("each is a change", end.count(11), 2);
+        end.set(3, 12);
+        end.resize(0, 11);
+        check.due("one less than a multiple", end.roundUp(0), 12);
+        end.begin(0, 36);
+        end.resize(1, 12);
+        check.throwsDue("moved, with the size already", STATE, () -> end.roundUp(0));
     }
 }

@@ -8,12 +8,14 @@ public final class SetupTest {
         promise03TruncateInput();
         promise04LoadDisk();
         promise04ReplacesEverything();
+        promise04ErrorChangesNothing();
         promise05ErrorCode();
         promise06ErrorOffset();
         settingsOfTheText();
         partitionsOfTheText();
         locksOfTheText();
         tokensOfTheText();
+        endsOfTheText();
         check.end();
     }
 
@@ -63,6 +65,19 @@ public final class SetupTest {
         check.due("length of the text", text.length(), 500);
         check.due("a text of 500 bytes", Texts.load(b, text), 0);
         check.due("its head", b.count(1), 3);
+        Texts.append(b, text);
+        check.due("appendInput refused", b.appendInput(0, 0, 0, 0, 0), -1);
+        check.due("the text is as before", b.loadDisk() + " " + b.count(1), "0 3");
+        check.due("the last byte counts", Texts.load(b, "disk 64;" + " ".repeat(491) + ";"), -1);
+        check.due("its offset", b.errorOffset(), 499);
+        check.due("no byte behind the last one", Texts.load(b, " ".repeat(496) + "disk"), -1);
+        check.due("the end of a full buffer", b.errorOffset(), 500);
+        check.due("all of the buffer is free again", b.appendInput(0, 0, 0, 0, 0), 20);
+        check.due("bytes of 0 are none of a text", b.loadDisk() + " " + b.errorOffset(), "-1 0");
+        b.appendInput(0x6469736b, 0x203634bb, 0x20202020, 0x20202020, 0x20202020);
+        check.due("a semicolon and 128", b.loadDisk() + " " + b.errorOffset(), "-1 7");
+        b.appendInput(-1, -1, -1, -1, -1);
+        check.due("negative parameters", b.loadDisk() + " " + b.errorOffset(), "-1 0");
     }
 
     private static void promise03TruncateInput() {
@@ -137,6 +152,29 @@ public final class SetupTest {
         check.due("sector(0)", b.sector(0), 0);
         Texts.load(b, "disk 64;");
         check.due("settings are those of no statement", Texts.state(b), Texts.state(new PartitionBench()));
+    }
+
+    /** Each error of the text on a bench with all that a load replaces. */
+    private static void promise04ErrorChangesNothing() {
+        check.at("promise 4, an error changes nothing");
+        PartitionBench b = Texts.bench("disk 100;align 2;part 10 8 1 2;part 30 4 1 2;");
+        b.begin(0, 8);
+        b.saveState();
+        b.run(1);
+        b.tear();
+        b.printDisk();
+        String before = Texts.state(b);
+        String[] wrong = {"", "disk 64", "disk 601;", "disk 64;head 1;head 1;", "disk 64;part 0 4 0 1;part 2 4 0 1;",
+            "disk 64;part 0 1 0 1;part 1 1 0 1;part 2 1 0 1;part 3 1 0 1;part 4 1 0 1;part 5 1 0 1;part 6 1 0 1;"
+            + "part 7 1 0 1;part 8 1 0 1;", "disk 64;part 0 4 0 1;lock 0;lock 0;", "disk 64;chunk 3;tail 2;align 5;x;"};
+        for (String text : wrong) {
+            check.due("\"" + text + "\"", Texts.load(b, text), -1);
+            check.due("\"" + text + "\" the state", Texts.state(b), before);
+            check.due("\"" + text + "\" the output", b.outputByte(7), (int) '>');
+            check.due("\"" + text + "\" the buffer is empty", b.truncateInput(1), false);
+        }
+        check.due("the changes can be undone", b.undo() + " " + b.undo() + " " + b.undo() + " " + b.undo(), "2 1 0 -1");
+        check.due("the saved state", b.restoreState() + " " + b.count(8), "2 0");
     }
 
     private static void promise05ErrorCode() {
@@ -284,6 +322,10 @@ public final class SetupTest {
         error(many + "part 0 1 0 1;", 5, many.length());
         error(many + " part", 5, many.length() + 1);
         error(many + "lock 7;", 0, -1);
+        error(many + "lock 8;", 2, many.length() + 5);
+        error(many + "chunk 2;", 0, -1);
+        error(many + "head 1;", 1, many.length());
+        error(many + "part;", 5, many.length());
         PartitionBench b = Texts.bench("disk 64;part 40 4 7 2;part 8 5 3 5;");
         check.due("the order of the text numbers them", Texts.print(b), "1[8,5] 0[40,4]");
         int[][] properties = {{40, 4, 2, 7, 0, 0, 0}, {8, 5, 5, 3, 0, 1, 0}};
@@ -346,5 +388,19 @@ public final class SetupTest {
         error("disk 64;chunks 4;", 1, 8);
         error("disk 64;aligned 4;", 1, 8);
         error("disk 64;tails 4;", 1, 8);
+    }
+
+    /** A text that ends where more is required: the offset is its length, with the spaces at its end. */
+    private static void endsOfTheText() {
+        check.at("the end of the text");
+        String[] texts = {"", "disk", "disk 64", "disk 64;head", "disk 64;head 3", "disk 64;tail", "disk 64;tail 3",
+            "disk 64;align", "disk 64;align 3", "disk 64;chunk", "disk 64;chunk 3", "disk 64;part", "disk 64;part 0",
+            "disk 64;part 0 4", "disk 64;part 0 4 0", "disk 64;part 0 4 0 1", "disk 64;part 0 4 0 1;lock",
+            "disk 64;part 0 4 0 1;lock 0"};
+        for (String text : texts) {
+            error(text, 1, text.length());
+            error(text + " \n ", 1, text.length() + 3);
+            error(text + " part", 1, text.length() + 1);
+        }
     }
 }

@@ -31,6 +31,7 @@ public final class DiskTest {
         promise55Verify();
         gapsOfAMove();
         endsOfBusyAreas();
+        areasOfAMoveTurnedBack();
         noGapsWhileAMoveIsOn();
         check.end();
     }
@@ -288,6 +289,11 @@ public final class DiskTest {
         PartitionBench tie = Texts.bench("disk 68;part 10 4 0 1;part 34 4 0 1;part 58 10 0 1;");
         check.due("the first one of two with the most room", tie.fit(3, 2), 14);
         check.due("no gap", Texts.bench(FULL).fit(1, 0), -1);
+        // The first gap has 9 sectors and a room of 2, from 16; the second one 6 and a room of 6, from 24.
+        PartitionBench rooms = Texts.bench("disk 64;part 0 9 0 1;part 18 6 0 1;part 30 34 0 1;");
+        rooms.set(3, 8);
+        check.due("rooms count, not gaps", rooms.fit(1, 0) + " " + rooms.fit(1, 1) + " " + rooms.fit(1, 2), "16 16 24");
+        check.due("a room that is enough", rooms.fit(3, 0) + " " + rooms.fit(3, 1) + " " + rooms.fit(3, 2), "24 24 24");
         PartitionBench whole = new PartitionBench();
         check.due("all sectors", whole.fit(64, 0) + whole.fit(64, 1) + whole.fit(64, 2), 0);
         check.due("one more", whole.fit(65, 0) + whole.fit(65, 1) + whole.fit(65, 2), -3);
@@ -424,6 +430,7 @@ public final class DiskTest {
         check.due("some are overwritten", b.copies(0), 1);
         b.wipe();
         check.due("wiped", b.copies(0), 0);
+        copiesByTheScratchArea();
         PartitionBench first = Texts.bench("disk 64;part 0 4 0 1;");
         first.begin(0, 60);
         first.run(9);
@@ -431,6 +438,21 @@ public final class DiskTest {
         check.throwsDue("part 5", java.util.NoSuchElementException.class, () -> b.copies(5));
         check.throwsDue("part -1", java.util.NoSuchElementException.class, () -> b.copies(-1));
         check.throwsDue("part 8", java.util.NoSuchElementException.class, () -> b.copies(8));
+    }
+
+    /** Two chunks of 4, one sector to the right, by the scratch area 60 to 63. */
+    private static void copiesByTheScratchArea() {
+        PartitionBench b = Texts.bench("disk 64;part 20 8 0 1;");
+        b.begin(0, 21);
+        int[] behindTorn = {2, 4, 5, 5};
+        int[] behindDone = {4, 5, 5, 5};
+        for (int step = 0; step < 4; step++) {
+            b.tear();
+            check.due("step " + step + " torn", b.copies(0), behindTorn[step]);
+            b.run(1);
+            check.due("step " + step + " done", b.copies(0), behindDone[step]);
+        }
+        check.due("the move ended", b.move(0), -1);
     }
 
     private static void promise53Behind() {
@@ -526,6 +548,24 @@ public final class DiskTest {
             gaps += b.gap(g, 0) + "+" + b.gap(g, 1) + " ";
         }
         return gaps;
+    }
+
+    private static void areasOfAMoveTurnedBack() {
+        check.at("areas of a move that is turned back");
+        PartitionBench b = Texts.bench("disk 64;part 0 8 0 1;");
+        b.begin(0, 40);
+        b.run(1);
+        check.due("FROM and TO", b.reason(0, 8) + " " + b.reason(40, 8), "3 4");
+        check.due("the partition", b.overlapped(0, 8) + " " + b.overlapped(40, 8), "1 0");
+        b.turnBack();
+        check.due("FROM and TO exchanged", b.reason(0, 8) + " " + b.reason(40, 8), "4 3");
+        check.due("the partition is at FROM", b.overlapped(0, 8) + " " + b.overlapped(40, 8), "0 1");
+        check.due("gaps", gaps(b), "8+32 48+16 ");
+        check.due("print", Texts.print(b), "0[40,8]>");
+        check.due("a move that is on its way back counts once", b.used(), 0.125);
+        b.run(9);
+        check.due("ended, FROM", b.reason(40, 8), 0);
+        check.due("ended, TO", b.reason(0, 8), 3);
     }
 
     private static void noGapsWhileAMoveIsOn() {

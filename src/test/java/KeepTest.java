@@ -114,6 +114,10 @@ public final class KeepTest {
         Texts.append(b, "disk 70;");
         b.undo();
         check.due("undo leaves the input buffer", b.loadDisk() + b.count(0), 70);
+        b.add(0, 4, 0, 1);
+        b.undo();
+        b.add(0, 4, 0, 1);
+        check.due("one that was undone was not made", b.part(0, 5) * 10000 + b.sector(3), 1003);
     }
 
     /** However many changes there were, the latest 10 can be undone, and none before them. */
@@ -258,6 +262,8 @@ public final class KeepTest {
         b.add(70, 4, 0, 1);
         check.due("restoreState()", b.restoreState(), 3);
         check.throwsDue("the later one", NoSuchElementException.class, () -> b.part(1, 0));
+        b.add(70, 4, 0, 1);
+        check.due("the serial is that of the saved state", b.part(1, 5), 4);
         check.due("of no partition", new PartitionBench().saveState(), 0);
         PartitionBench eight = Texts.bench("disk 64;part 0 1 0 1;part 1 1 0 1;part 2 1 0 1;part 3 1 0 1;part 4 1 0 1;"
             + "part 5 1 0 1;part 6 1 0 1;part 7 1 0 1;");

@@ -620,5 +620,10 @@ public final class MovesTest {
             b.run(1);
         }
         check.due("ended", b.stepSector(0, true), -1);
+        b.begin(0, 44);
+        b.run(1);
+        b.turnBack();
+        check.due("turned back: the last chunk, from FROM to TO", b.nextStep(1) + " " + b.stepSector(0, false) + " "
+            + b.stepSector(0, true) + " " + b.stepSector(3, false) + " " + b.stepSector(3, true), "2 52 30 -1 -1");
     }
 }

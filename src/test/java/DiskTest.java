@@ -32,6 +32,7 @@ public final class DiskTest {
         gapsOfAMove();
         endsOfBusyAreas();
         areasOfAMoveTurnedBack();
+        gapsThatAreGone();
         noGapsWhileAMoveIsOn();
         check.end();
     }
@@ -183,6 +184,14 @@ public final class DiskTest {
         check.due("in three areas", places, "8 9 10 11 12 13 92 93 94 19 ");
         b.run(99);
         check.due("behind the move", b.place(0, 9), 19);
+        PartitionBench ones = Texts.bench("disk 64;chunk 1;part 20 3 0 1;");
+        ones.begin(0, 19);
+        ones.run(1);
+        check.due("chunks of 1", ones.place(0, 0) + " " + ones.place(0, 1) + " " + ones.place(0, 2), "19 21 22");
+        ones.run(1);
+        check.due("chunks of 1, two moved", ones.place(0, 0) + " " + ones.place(0, 1) + " " + ones.place(0, 2), "19 20 22");
+        check.throwsDue("block 3 in a move", IndexOutOfBoundsException.class, () -> ones.place(0, 3));
+        check.throwsDue("block -1 in a move", IndexOutOfBoundsException.class, () -> ones.place(0, -1));
     }
 
     private static void promise12IsWhole() {
@@ -221,6 +230,9 @@ public final class DiskTest {
             check.due("of eight, byStart(" + i + ")", eight.byStart(i), 7 - i);
         }
         check.due("of eight, byStart(8)", eight.byStart(8), -1);
+        PartitionBench beside = Texts.bench("disk 64;part 8 8 0 1;part 0 8 0 1;part 16 48 0 1;");
+        check.due("side by side", "" + beside.byStart(0) + beside.byStart(1) + beside.byStart(2), "102");
+        check.due("behind, side by side", "" + beside.behind(1) + beside.behind(0) + beside.behind(2), "02-1");
     }
 
     private static void promise14Gap() {
@@ -370,6 +382,14 @@ public final class DiskTest {
         b.begin(1, 60);
         b.run(1);
         check.due("a partition that is moved counts once", b.used(), 24.0 / 92.0);
+        b.run(99);
+        b.remove(1);
+        check.due("one removed", b.used(), 16.0 / 92.0);
+        PartitionBench two = Texts.bench("disk 64;part 0 8 0 1;part 8 8 0 1;");
+        two.join(0);
+        check.due("two joined", two.used(), 0.25);
+        two.remove(0);
+        check.due("all removed", two.used(), 0.0);
         check.due("full", Texts.bench(FULL).used(), 1.0);
         check.due("empty", new PartitionBench().used(), 0.0);
         check.due("two usable", Texts.bench("disk 64;head 31;tail 31;part 31 1 0 1;").used(), 0.5);
@@ -540,6 +560,12 @@ public final class DiskTest {
         small.remove(1);
         check.due("gaps beside a short scratch area", gaps(small), "0+10 15+42 60+4 ");
         check.due("behind it", "" + small.reason(59, 1) + small.reason(60, 1), "40");
+        PartitionBench behind = Texts.bench("disk 64;part 51 8 0 1;");
+        behind.begin(0, 52);
+        check.due("the scratch area directly behind TO", behind.move(3) + ": " + gaps(behind), "60: 0+51 ");
+        PartitionBench ahead = Texts.bench("disk 64;part 57 7 0 1;");
+        ahead.begin(0, 56);
+        check.due("the scratch area directly ahead of TO", ahead.move(3) + ": " + gaps(ahead), "52: 0+52 ");
     }
 
     private static String gaps(PartitionBench b) {
@@ -566,6 +592,27 @@ public final class DiskTest {
         b.run(9);
         check.due("ended, FROM", b.reason(40, 8), 0);
         check.due("ended, TO", b.reason(0, 8), 3);
+    }
+
+    private static void gapsThatAreGone() {
+        check.at("gaps that are gone");
+        PartitionBench b = Texts.bench("disk 64;part 10 11 0 1;");
+        b.set(3, 8);
+        check.due("two gaps", gaps(b), "0+10 21+43 ");
+        check.due("waste()", b.waste(), 3);
+        b.set(3, 1);
+        b.add(21, 43, 0, 1);
+        b.set(3, 8);
+        check.due("one is filled", gaps(b), "0+10 ");
+        check.due("count(6)", b.count(6), 10);
+        check.due("largestGap()", b.largestGap(), 10);
+        check.due("waste()", b.waste(), 0);
+        check.due("scatter()", b.scatter(), 0f);
+        check.due("gapAt(30)", b.gapAt(30), -1);
+        check.due("fit(11, 0)", b.fit(11, 0), -1);
+        check.due("fit(1, 2)", b.fit(1, 2), 0);
+        check.due("cheapestMove(40)", b.cheapestMove(40), -1);
+        check.throwsDue("gap(1, 0)", IndexOutOfBoundsException.class, () -> b.gap(1, 0));
     }
 
     private static void noGapsWhileAMoveIsOn() {

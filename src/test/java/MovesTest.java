@@ -409,6 +409,16 @@ public final class MovesTest {
         check.due("print", Texts.print(order), "2[0,2] 0[2,6]* 1[8,4] 3[12,2]");
         order.begin(1, 40);
         check.throwsDue("a move is on", STATE, order::compact);
+        PartitionBench beside = Texts.bench("disk 64;part 12 8 0 1;part 4 8 0 1;part 20 8 0 1;");
+        check.due("side by side", beside.compact(), 3);
+        check.due("print", Texts.print(beside), "1[0,8] 0[8,8] 2[16,8]");
+        // The first one has no scratch area before the last one is moved; then it had its turn.
+        PartitionBench turn = Texts.bench("disk 64;part 2 20 0 1;part 22 35 0 1;lock 1;part 60 3 0 1;");
+        check.due("steps of one", turn.compactSteps(), 1);
+        check.due("each one has one turn", turn.compact(), 1);
+        check.due("print", Texts.print(turn), "0[2,20] 1[22,35]* 2[57,3]");
+        check.due("the next time", turn.compact(), 1);
+        check.due("print", Texts.print(turn), "0[0,20] 1[22,35]* 2[57,3]");
         check.due("of no partition", new PartitionBench().compact(), 0);
         StringBuilder eight = new StringBuilder("disk 64;");
         for (int i = 8; i > 0; i--) {
@@ -484,6 +494,10 @@ public final class MovesTest {
         PartitionBench between = Texts.bench("disk 64;part 0 10 0 1;lock 0;part 20 4 0 1;part 30 10 0 1;lock 2;");
         check.due("the whole hole", between.cheapestMove(24), -2);
         check.due("more than the hole", between.cheapestMove(25), -1);
+        // Side by side with a locked one, the hole of the first one has 14 sectors.
+        PartitionBench beside = Texts.bench("disk 64;part 10 4 0 1;part 14 4 0 1;lock 1;");
+        check.due("the gap behind both", beside.cheapestMove(46), -2);
+        check.due("more than that", beside.cheapestMove(47), -1);
         PartitionBench left = Texts.bench("disk 65;align 8;part 16 9 0 1;");
         check.due("all the room ahead of it", left.cheapestMove(56), 56);
         check.due("more than that", left.cheapestMove(57), -1);

@@ -306,6 +306,14 @@ public final class DiskTest {
         rooms.set(3, 8);
         check.due("rooms count, not gaps", rooms.fit(1, 0) + " " + rooms.fit(1, 1) + " " + rooms.fit(1, 2), "16 16 24");
         check.due("a room that is enough", rooms.fit(3, 0) + " " + rooms.fit(3, 1) + " " + rooms.fit(3, 2), "24 24 24");
+        // The other way round: a room of 6 from 8, then 9 sectors with a room of 2 from 24.
+        PartitionBench turned = Texts.bench("disk 64;part 0 8 0 1;part 14 3 0 1;part 26 38 0 1;");
+        turned.set(3, 8);
+        check.due("the least room is in the greater gap", turned.fit(1, 1) + " " + turned.fit(1, 2), "24 8");
+        // Rooms of 6 from 8 and from 24: a tie, though the second gap has 12 sectors.
+        PartitionBench equal = Texts.bench("disk 64;part 0 8 0 1;part 14 4 0 1;part 30 34 0 1;");
+        equal.set(3, 8);
+        check.due("a tie of rooms", equal.fit(1, 1) + " " + equal.fit(1, 2), "8 8");
         PartitionBench whole = new PartitionBench();
         check.due("all sectors", whole.fit(64, 0) + whole.fit(64, 1) + whole.fit(64, 2), 0);
         check.due("one more", whole.fit(65, 0) + whole.fit(65, 1) + whole.fit(65, 2), -3);
@@ -563,6 +571,12 @@ public final class DiskTest {
         PartitionBench behind = Texts.bench("disk 64;part 51 8 0 1;");
         behind.begin(0, 52);
         check.due("the scratch area directly behind TO", behind.move(3) + ": " + gaps(behind), "60: 0+51 ");
+        PartitionBench one = Texts.bench("disk 64;part 0 8 0 1;");
+        one.begin(0, 9);
+        check.due("one sector ahead of TO", gaps(one), "8+1 17+47 ");
+        PartitionBench last = Texts.bench("disk 64;part 10 8 0 1;part 40 19 0 1;");
+        last.begin(0, 9);
+        check.due("one sector ahead of the scratch area", gaps(last), "0+9 18+22 59+1 ");
         PartitionBench ahead = Texts.bench("disk 64;part 57 7 0 1;");
         ahead.begin(0, 56);
         check.due("the scratch area directly ahead of TO", ahead.move(3) + ": " + gaps(ahead), "52: 0+52 ");

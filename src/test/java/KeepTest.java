@@ -18,6 +18,7 @@ public final class KeepTest {
         promise60Undo();
         promise60Latest10();
         promise60IntoAMove();
+        promise60Counts();
         promise60EachChange();
         promise61SaveState();
         promise62RestoreState();
@@ -164,6 +165,44 @@ public final class KeepTest {
         check.due("its steps", b.run(99), 4);
         check.due("verify()", b.verify(), 15);
         check.due("print", Texts.print(b), "0[8,10] 1[20,6] 2[30,8] 3[50,10]*");
+    }
+
+    /** The numbers that are counted are undone and restored, each by itself. */
+    private static void promise60Counts() {
+        check.at("promise 60, counts");
+        PartitionBench b = Texts.bench(TEXT);
+        b.begin(0, 70);
+        b.tear();
+        b.tear();
+        b.run(3);
+        b.begin(1, 60);
+        b.run(1);
+        b.set(4, 2);
+        b.set(3, 1);
+        check.due("done, torn, ended", b.count(8) + " " + b.count(9) + " " + b.count(10), "4 2 1");
+        b.saveState();
+        b.run(1);
+        b.begin(2, 28);
+        b.tear();
+        b.run(5);
+        check.due("more of each", b.count(8) + " " + b.count(9) + " " + b.count(10), "9 3 3");
+        String later = Texts.state(b);
+        b.undo();
+        check.due("run undone", b.count(8) + " " + b.count(9) + " " + b.count(10), "5 3 2");
+        b.undo();
+        check.due("tear undone", b.count(8) + " " + b.count(9) + " " + b.count(10), "5 2 2");
+        b.undo();
+        b.undo();
+        check.due("the end of a move undone", b.count(8) + " " + b.count(9) + " " + b.count(10), "4 2 1");
+        check.due("its own, too", b.part(1, 6) + " " + b.part(0, 6), "0 1");
+        check.due("the changes that are left", b.count(11), 6);
+        b.run(1);
+        b.begin(2, 28);
+        b.tear();
+        b.run(5);
+        check.due("the same again", Texts.state(b), later);
+        b.restoreState();
+        check.due("restored", b.count(8) + " " + b.count(9) + " " + b.count(10) + " " + b.count(11), "4 2 1 0");
     }
 
     /** What the document calls a change; each one on a bench with a move on, at its second step. */

@@ -75,6 +75,19 @@ public final class MovesTest {
         check.due("1 far, 3 are enough", tight.moveReason(1, 31), 0);
         check.due("2 far, 2 are left", tight.moveReason(1, 32), 7);
         check.due("3 far, chunks of 3", tight.moveReason(1, 33), 0);
+        // A scratch area would only be where sectors are reserved.
+        PartitionBench head = Texts.bench("disk 64;head 4;part 7 57 0 1;");
+        check.due("no scratch area in the head", head.moveReason(0, 4), 7);
+        PartitionBench near = Texts.bench("disk 64;head 4;part 7 53 0 1;part 61 3 0 1;");
+        check.due("none that begins in the head", near.moveReason(0, 8), 7);
+        near.set(4, 3);
+        check.due("one that begins behind the head", near.moveReason(0, 8), 0);
+        PartitionBench end = Texts.bench("disk 64;tail 4;part 0 57 0 1;");
+        check.due("none in the tail", end.moveReason(0, 3), 7);
+        PartitionBench tail = Texts.bench("disk 64;tail 4;part 0 3 0 1;part 4 53 0 1;");
+        check.due("none that ends in the tail", tail.moveReason(1, 3), 7);
+        tail.set(4, 3);
+        check.due("one that ends ahead of the tail", tail.moveReason(1, 3), 0);
         // A partition shorter than CHUNK needs a scratch area of its size only.
         PartitionBench small = Texts.bench("disk 64;chunk 16;part 0 56 0 1;part 56 3 0 1;");
         check.due("a scratch area of 3", small.moveReason(1, 57), 0);
@@ -133,6 +146,8 @@ public final class MovesTest {
         }
         PartitionBench tight = Texts.bench(TIGHT);
         check.throwsDue("no scratch area", STATE, () -> tight.begin(1, 31));
+        tight.set(4, 3);
+        check.due("one by another CHUNK", tight.begin(1, 31), 20);
         check.due("begin(0, 8)", b.begin(0, 8), 5);
         check.due("no step is done", b.count(8) + b.move(6) + b.move(8), 0);
         check.due("it is at FROM", b.part(0, 0), 10);
@@ -487,9 +502,11 @@ public final class MovesTest {
         PartitionBench rooms = Texts.bench("disk 64;align 16;part 0 8 0 1;part 32 8 0 1;");
         check.due("a room of 16", rooms.cheapestMove(16), -2);
         check.due("32 by a move", rooms.cheapestMove(32), 48);
+        check.due("more than the room, though not than the gap", rooms.cheapestMove(17), 48);
         rooms.lock(0, true);
         check.due("32 by a move of the other one", rooms.cheapestMove(32), 1016);
         check.due("48 by a move", rooms.cheapestMove(48), -1);
+        holesHaveRooms();
         // The hole between the locked ones has 20 sectors.
         PartitionBench between = Texts.bench("disk 64;part 0 10 0 1;lock 0;part 20 4 0 1;part 30 10 0 1;lock 2;");
         check.due("the whole hole", between.cheapestMove(24), -2);
@@ -498,12 +515,32 @@ public final class MovesTest {
         PartitionBench beside = Texts.bench("disk 64;part 10 4 0 1;part 14 4 0 1;lock 1;");
         check.due("the gap behind both", beside.cheapestMove(46), -2);
         check.due("more than that", beside.cheapestMove(47), -1);
+        PartitionBench first = Texts.bench("disk 64;part 30 4 0 1;part 38 4 0 1;part 46 14 0 1;");
+        check.due("the first gap has the most room", first.cheapestMove(30), -2);
         PartitionBench left = Texts.bench("disk 65;align 8;part 16 9 0 1;");
         check.due("all the room ahead of it", left.cheapestMove(56), 56);
         check.due("more than that", left.cheapestMove(57), -1);
         check.due("no room at all", Texts.bench("disk 64;part 0 64 0 1;").cheapestMove(1), -1);
         check.due("no partitions", new PartitionBench().cheapestMove(64), -2);
         check.due("no partitions, too great", new PartitionBench().cheapestMove(65), -1);
+    }
+
+    /** The sectors that a partition leaves have a room, too: those from the first multiple of ALIGN on. */
+    private static void holesHaveRooms() {
+        // The hole of the second one is 4 to 23, with a room of 16; its gap ahead has a room of 8, the one behind it 16.
+        PartitionBench far = Texts.bench("disk 64;part 0 4 0 1;lock 0;part 16 8 0 1;part 24 24 0 1;lock 2;");
+        far.set(3, 8);
+        check.due("as much as there is", far.cheapestMove(16), -2);
+        check.due("no more by a move", far.cheapestMove(17), -1);
+        far.set(3, 4);
+        check.due("ALIGN 4: the whole hole", far.cheapestMove(20), 1048);
+        check.due("ALIGN 4: no more", far.cheapestMove(21), -1);
+        // Within its hole of 4 to 63: ahead of it a room from 8 on.
+        PartitionBench within = Texts.bench("disk 64;part 0 4 0 1;lock 0;part 24 16 0 1;");
+        within.set(3, 8);
+        check.due("behind and ahead of it", within.cheapestMove(24), -2);
+        check.due("to the right: 8 to 47", within.cheapestMove(40), 1008);
+        check.due("no more than 40", within.cheapestMove(41), -1);
     }
 
     private static void promise44BlocksAt() {
@@ -528,6 +565,11 @@ public final class MovesTest {
             b.run(1);
         }
         check.due("ended", b.blocksAt(0), -1);
+        PartitionBench small = Texts.bench("disk 64;part 20 6 0 1;");
+        small.begin(0, 21);
+        small.run(1);
+        check.due("a short chunk in the scratch area", small.blocksAt(0) + " " + small.blocksAt(1) + " " + small.blocksAt(2),
+            "0 2 4");
     }
 
     private static void promise51BestChunk() {

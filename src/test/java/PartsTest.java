@@ -16,6 +16,7 @@ public final class PartsTest {
 
     public static void main(String[] args) {
         promise19Add();
+        numbersGivenAgain();
         promise20AddBy();
         promise21Remove();
         promise22Lock();
@@ -82,6 +83,54 @@ public final class PartsTest {
         eight.remove(5);
         check.due("the number that is free", eight.add(20, 2, 0, 1), 5);
         check.due("its serial", eight.part(5, 5), 8);
+    }
+
+    /** Numbers 0 and 1 are given a second time: they are neither the serials nor the order of the starts. */
+    private static PartitionBench again() {
+        PartitionBench b = Texts.bench("disk 100;part 0 8 1 2;part 10 8 2 3;part 20 8 1 1;part 30 8 1 1;");
+        b.remove(1);
+        b.remove(0);
+        b.add(50, 8, 1, 1);
+        b.add(58, 8, 1, 8);
+        return b;
+    }
+
+    private static void numbersGivenAgain() {
+        check.at("numbers that are given again");
+        PartitionBench b = again();
+        properties(b, 0, 50, 8, 1, 1, 0, 4, 0);
+        properties(b, 1, 58, 8, 8, 1, 0, 5, 0);
+        check.due("sectors", b.sector(50) + " " + b.sector(65), "5000 6007");
+        check.due("what the first ones left is none of them", b.copies(0) + b.copies(1), 0);
+        check.due("byStart", "" + b.byStart(0) + b.byStart(1) + b.byStart(2) + b.byStart(3) + b.byStart(4), "2301-1");
+        check.due("behind", "" + b.behind(2) + b.behind(3) + b.behind(0) + b.behind(1), "301-1");
+        check.due("owner", "" + b.owner(0) + b.owner(50) + b.owner(58) + b.owner(20), "-1012");
+        check.due("overlapped", b.overlapped(0, 50) + " " + b.overlapped(57, 2) + " " + b.overlapped(65, 9), "12 3 2");
+        check.due("print", Texts.print(b), "2[20,8] 3[30,8] 0[50,8] 1[58,8]");
+        check.due("verify()", b.verify(), 15);
+        check.due("a partition is not in its own way", b.moveReason(1, 62) * 10 + b.resizeReason(1, 42), 0);
+        check.due("another one is", b.moveReason(0, 51) * 10 + b.resizeReason(0, 9), 65);
+        check.due("cheapestMove", b.cheapestMove(41), 1000);
+        b.begin(1, 80);
+        b.run(1);
+        check.due("owner in a move", b.owner(84) + " " + b.owner(58), "1 1");
+        check.due("print in a move", Texts.print(b), "2[20,8] 3[30,8] 0[50,8] 1[58,8]>");
+        b.run(1);
+        b.saveState();
+        b.remove(0);
+        b.restoreState();
+        check.due("serials of the saved state", b.part(0, 5) + " " + b.part(1, 5) + " " + b.verify(), "4 5 15");
+        b.remove(0);
+        b.undo();
+        check.due("serials of what is undone", b.part(0, 5) + " " + b.part(1, 5) + " " + b.verify(), "4 5 15");
+        check.due("compactSteps()", again().compactSteps(), 8);
+        PartitionBench packed = again();
+        check.due("compact()", packed.compact(), 4);
+        check.due("print then", Texts.print(packed), "2[0,8] 3[8,8] 0[16,8] 1[24,8]");
+        PartitionBench joined = again();
+        check.due("join", joined.join(0), 1);
+        check.due("joined", joined.sector(65) + " " + joined.owner(65), "5015 0");
+        check.due("the next number", joined.add(80, 1, 0, 1) * 10 + joined.part(1, 5), 16);
     }
 
     private static void promise20AddBy() {
@@ -255,6 +304,11 @@ public final class PartsTest {
         check.throwsDue("part -1", NONE, () -> b.setMinimum(-1, 1));
         b.begin(0, 70);
         check.due("of one that is moved", b.setMinimum(0, 3), 1);
+        PartitionBench far = Texts.bench("disk 64;part 30 4 0 1;");
+        check.throwsDue("one more than the size", ARGUMENT, () -> far.setMinimum(0, 5));
+        check.due("the size", far.setMinimum(0, 4), 1);
+        PartitionBench first = Texts.bench("disk 64;part 0 4 0 1;");
+        check.due("the size of one at sector 0", first.setMinimum(0, 4), 1);
     }
 
     private static void promise26GrowsTo() {

@@ -276,10 +276,12 @@ public final class KeepTest {
     }
 
     private static void undoes(String name, PartitionBench b, Act act) {
+        // One change ahead of it, by which the state is neither the one that was loaded nor the one that was saved.
+        b.set(4, b.count(4) + 1);
         String before = Texts.state(b);
         act.on(b);
-        check.due(name + " can be undone", b.count(11), 1);
-        check.due(name + " undo()", b.undo(), 0);
+        check.due(name + " can be undone", b.count(11), 2);
+        check.due(name + " undo()", b.undo(), 1);
         check.due(name + " the state behind", Texts.state(b), before);
     }
 

@@ -803,7 +803,8 @@ public final class PartitionBench {
         }
 
         int lengthOf(int chunkNumber) {
-            return Math.min(chunk, size - chunkNumber * chunk);
+            int rest = size - chunkNumber * chunk;
+            return rest < chunk ? rest : chunk;
         }
 
         boolean isMovedChunk(int chunkNumber) {
